@@ -244,6 +244,25 @@ public final class CarriersTest {
         Check.due("still protected", x.part(0, 0, 4), 1);
     }
 
+    private static void partsOfTheLastRecording() {
+        SoundArchive x = new SoundArchive();
+        x.addCarrier(1, 95, 2, 100, 5);
+        for (int i = 0; i < 16; i++) {
+            x.addRecording(0, 1, 5 * i, 5 * i + 5);
+        }
+        for (int i = 0; i < 4; i++) {
+            Check.due("part " + i + " of recording 15", x.addPart(15, i, i + 1, i + 4, 10 + i), i);
+            Check.due("part " + i + " of recording 14", x.addPart(14, i, 5, i, 20 + i), i);
+        }
+        for (int i = 0; i < 4; i++) {
+            int[] due = {i, i + 1, i + 4, 10 + i, 1};
+            for (int property = 0; property < 5; property++) {
+                Check.due("part " + i + " of recording 15", x.part(15, i, property), due[property]);
+            }
+            Check.due("part " + i + " of recording 14", x.part(14, i, 1), 5);
+        }
+    }
+
     public static void main(String[] args) {
         newObject();
         carriersOfEveryKind();
@@ -252,6 +271,7 @@ public final class CarriersTest {
         tracksOfRecordings();
         recordings();
         parts();
+        partsOfTheLastRecording();
         Check.finish();
     }
 }

@@ -234,6 +234,21 @@ public final class PassesTest {
         Check.due("the smaller number", y.bestPass(0), 0);
     }
 
+    /** The smallest capture that counts is 1. */
+    private static void captureOne() {
+        SoundArchive x = new SoundArchive();
+        x.addCarrier(2, 48, 1, 60, 20);
+        x.addMachine(2, 1, 1, 1);
+        x.addRecording(0, 1, 0, 10);
+        Check.due("planned", x.planned(0, 3), 1);
+        Check.due("one pass", x.fewestPasses(0, 1), 1);
+        Check.due("none for 2", x.fewestPasses(0, 2), NONE);
+        Check.due("made", x.transfer(0, 0, 48, 0), 0);
+        Check.due("captured", x.captured(0, 0), 1);
+        Check.due("its tracks", x.pass(0, 5), 1);
+        Check.due("best", x.bestPass(0), 0);
+    }
+
     private static void twoTracks() {
         SoundArchive x = new SoundArchive();
         x.addCarrier(1, 95, 2, 60, 20);
@@ -350,6 +365,8 @@ public final class PassesTest {
         Check.due("quality 101", x.fewestPasses(0, 101), BAD_VALUE);
         Check.due("carrier -1", x.fewestPasses(-1, 50), BAD_INDEX);
         Check.due("no recordings", x.fewestPasses(0, 50), 0);
+        Check.due("quality 1", x.fewestPasses(0, 1), 0);
+        Check.due("quality 100", x.fewestPasses(0, 100), 0);
         x.addRecording(0, 1, 0, 10);
         Check.due("no machine", x.fewestPasses(0, 50), NONE);
         x.addMachine(1, 2, 2, 100);
@@ -392,6 +409,7 @@ public final class PassesTest {
         roomForPasses();
         lookingAtPasses();
         bestPasses();
+        captureOne();
         twoTracks();
         hearing();
         durations();

@@ -322,6 +322,21 @@ public final class RequestsTest {
         Check.due("its pass", x.requested(0, 8), NONE);
     }
 
+    private static void anotherRecording() {
+        SoundArchive x = withParts();
+        x.addRecording(0, 2, 0, 600);
+        x.addPart(1, 0, 600, 5, 99);
+        x.transfer(0, 0, 190, 1);
+        x.permit(5, 0, 1, 0);
+        Check.due("of the length of this one", x.request(0, 1, 599, 600, 1, 1), 0);
+        Check.due("its recording", x.requested(0, 2), 1);
+        Check.due("answered", x.answer(0), 0);
+        Check.due("income of its holder", x.income(5), 1);
+        Check.due("fee of all of it", x.fee(0, 1, 0, 600, 2), 1800);
+        Check.due("lacking", x.lacking(0, 1, 0, 600, 2), 1);
+        Check.due("not lacking", x.lacking(0, 1, 0, 600, 1), 0);
+    }
+
     private static void order() {
         SoundArchive x = withRecording();
         int[][] requests = {{0, 50, 40}, {2, 50, 40}, {2, 60, 40}, {2, 60, 40}, {0, 1, 39}, {1, 99, 40}, {2, 99, 41}};
@@ -389,6 +404,7 @@ public final class RequestsTest {
         answers();
         sumsOfMoney();
         expiredRequests();
+        anotherRecording();
         order();
         totals();
         Check.finish();

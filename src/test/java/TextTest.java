@@ -137,6 +137,54 @@ public final class TextTest {
         Check.due("0", x.total(11), 0);
     }
 
+    private static void actsOfEachKind() {
+        SoundArchive x = new SoundArchive();
+        x.addMachine(0, 7, 1, 90);
+        x.addMachine(1, 7, 1, 90);
+        x.addCarrier(0, 45, 1, 600, 9);
+        x.addCarrier(1, 190, 1, 600, 9);
+        x.addRecording(1, 2, 0, 100);
+        x.request(0, 0, 0, 10, 1, 100);
+        x.request(0, 0, 0, 10, 1, 50);
+        Check.due("five acts", runOf(x, "t1m1v190s1;a1;d10;t0m0v78s0;d2;"), 5);
+        int[] due = {1, 1, 190, 1, 0, 2, 0};
+        for (int property = 0; property < due.length; property++) {
+            Check.due("the pass " + property, x.pass(0, property), due[property]);
+        }
+        Check.due("the other pass", x.pass(1, 4), 10);
+        Check.due("its speed", x.pass(1, 2), 78);
+        Check.due("answered", x.requested(1, 8), 0);
+        Check.due("not the other one", x.requested(0, 0), 0);
+        Check.due("today", x.total(0), 12);
+    }
+
+    private static void recordedOnce() {
+        SoundArchive x = new SoundArchive();
+        Check.due("three acts", runOf(x, "d1;d2;d3;"), 3);
+        Check.due("one state", x.total(12), 1);
+        Check.due("undone as one", x.undo(), 0);
+        Check.due("today", x.total(0), 0);
+        SoundArchive y = withRequest();
+        for (int i = 0; i < 2; i++) {
+            y.undo();
+        }
+        Check.due("two states", y.total(12), 2);
+        Check.due("two passes", runOf(y, "t0m0v190s0;t0m0v190s0;"), 2);
+        Check.due("one more", y.total(12), 3);
+        y.undo();
+        Check.due("no pass", y.total(4), 0);
+        SoundArchive z = withRequest();
+        z.transfer(0, 0, 190, 0);
+        z.save(0);
+        for (int i = 0; i < 5; i++) {
+            z.undo();
+        }
+        z.restore(0);
+        Check.due("one state", z.total(12), 1);
+        Check.due("an answer", runOf(z, "a0;"), 1);
+        Check.due("one more", z.total(12), 2);
+    }
+
     private static void runningToTheLastDay() {
         SoundArchive x = new SoundArchive();
         for (int i = 0; i < 100; i++) {
@@ -155,6 +203,8 @@ public final class TextTest {
         aTextThatIsFull();
         running();
         runningUntilAnError();
+        actsOfEachKind();
+        recordedOnce();
         runningToTheLastDay();
         Check.finish();
     }
