@@ -908,15 +908,14 @@ public final class SoundArchive {
         return now.today < now.parts.get(row, PART_FREE);
     }
 
-    private int sharedSeconds(int row, int from, int to) {
+    /** The seconds that a part takes of the excerpt; both rights and fees ask for them. */
+    private int boundSeconds(int row, int user, int from, int to) {
+        if (!isProtected(row) || now.parts.get(row, PART_HOLDER) == user) {
+            return 0;
+        }
         int start = Math.max(from, now.parts.get(row, PART_FROM));
         int end = Math.min(to, now.parts.get(row, PART_TO));
         return Math.max(0, end - start);
-    }
-
-    /** What lacks rights and what costs a fee rest on the same parts. */
-    private boolean isBound(int row, int user, int from, int to) {
-        return isProtected(row) && now.parts.get(row, PART_HOLDER) != user && sharedSeconds(row, from, to) > 0;
     }
 
     private boolean isPermitted(int holder, int user, int use) {
@@ -936,7 +935,7 @@ public final class SoundArchive {
         int set = 0;
         for (int part = 0; part < now.recordings.get(recording, RECORDING_PARTS); part++) {
             int row = rowOfPart(recording, part);
-            if (isBound(row, user, from, to) && !isPermitted(now.parts.get(row, PART_HOLDER), user, use)) {
+            if (boundSeconds(row, user, from, to) > 0 && !isPermitted(now.parts.get(row, PART_HOLDER), user, use)) {
                 set |= 1 << part;
             }
         }
@@ -952,7 +951,7 @@ public final class SoundArchive {
     }
 
     private int feeOfPart(int row, int user, int from, int to, int use) {
-        return isBound(row, user, from, to) ? sharedSeconds(row, from, to) * priceOfSecond(use) : 0;
+        return boundSeconds(row, user, from, to) * priceOfSecond(use);
     }
 
     private int feeOfExcerpt(int user, int recording, int from, int to, int use) {
@@ -995,7 +994,7 @@ public final class SoundArchive {
         private static final int[] SPEEDS = {33, 45, 78, 95, 190, 380, 48, 0, 0};
 
         private static int speedOf(int kind, int number) {
-            if (!isWithin(kind, DISC, CASSETTE) || !isWithin(number, 0, SPEEDS_AT_MOST - 1)) {
+            if (kind < DISC || kind > CASSETTE || number < 0 || number >= SPEEDS_AT_MOST) {
                 return 0;
             }
             int at = kind * SPEEDS_AT_MOST + number;
@@ -1045,7 +1044,7 @@ public final class SoundArchive {
         }
 
         private static int stripsOfTrack(int layout, int track) {
-            if (!isWithin(layout, FULL_TRACK, PAIRED_TRACK) || !isWithin(track, 0, TRACKS_AT_MOST - 1)) {
+            if (layout < FULL_TRACK || layout > PAIRED_TRACK || track < 0 || track >= TRACKS_AT_MOST) {
                 return 0;
             }
             int at = layout * TRACKS_AT_MOST + track;
@@ -1119,20 +1118,19 @@ public final class SoundArchive {
             return rows - 1;
         }
 
-        private int placeOf(int row, int column) {
-            if (!has(row) || column < 0 || column >= columns) {
-                return -1;
-            }
-            return row * columns + column;
-        }
-
         private int get(int row, int column) {
-            int place = placeOf(row, column);
+            if (row < 0 || row >= rows || column < 0 || column >= columns) {
+                return 0;
+            }
+            int place = row * columns + column;
             return place >= 0 && place < cells.length ? cells[place] : 0;
         }
 
         private void set(int row, int column, int value) {
-            int place = placeOf(row, column);
+            if (row < 0 || row >= rows || column < 0 || column >= columns) {
+                return;
+            }
+            int place = row * columns + column;
             if (place >= 0 && place < cells.length) {
                 cells[place] = value;
             }

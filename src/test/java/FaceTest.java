@@ -22,9 +22,18 @@ public final class FaceTest {
         "undo/0", "save/1", "restore/1", "carrier/2", "machine/2", "recording/2", "part/3", "pass/2", "captured/2",
         "quality/2", "bestPass/1", "permission/2", "requested/2", "lacking/5", "fee/5", "income/1", "paid/1", "next/1",
         "total/1", "heard/5", "duration/2", "planned/2", "fewestPasses/2"};
+    private static final Set<String> FACE = namesOf(METHODS);
     private static final String[] FORBIDDEN = {
         "\\bthrow\\b", "\\btry\\b", "\\bcatch\\b", "\\bsynchronized\\b", "\\bassert\\b", "->", "::", "\\bimport\\b",
         "\\bpackage\\b", "Exact\\(", "\\bSystem\\.(?!arraycopy)", "\\bInteger\\.[A-Z]", "\\bprotected\\b"};
+
+    private static Set<String> namesOf(String[] methods) {
+        Set<String> names = new HashSet<>();
+        for (String method : methods) {
+            names.add(method.substring(0, method.indexOf('/')));
+        }
+        return names;
+    }
 
     private static void constants() throws IllegalAccessException {
         Set<String> found = new TreeSet<>();
@@ -47,6 +56,8 @@ public final class FaceTest {
         for (Method m : SoundArchive.class.getDeclaredMethods()) {
             if (!Modifier.isPublic(m.getModifiers())) {
                 Check.holds(m.getName() + " is private", Modifier.isPrivate(m.getModifiers()));
+                Check.holds(m.getName() + " bears no public name", !FACE.contains(m.getName()));
+                Check.holds(m.getName() + " takes few parameters", m.getParameterCount() <= 7);
                 continue;
             }
             found.add(m.getName() + "/" + m.getParameterCount());
@@ -66,15 +77,11 @@ public final class FaceTest {
         Check.due("constructors", all.length, 1);
         Check.holds("it is public and takes nothing",
                 Modifier.isPublic(all[0].getModifiers()) && all[0].getParameterCount() == 0);
-        Set<String> face = new HashSet<>();
-        for (String name : METHODS) {
-            face.add(name.substring(0, name.indexOf('/')));
-        }
         for (Class<?> inside : SoundArchive.class.getDeclaredClasses()) {
             Check.holds(inside.getName() + " is static", Modifier.isStatic(inside.getModifiers()));
             Check.holds(inside.getName() + " has few fields", inside.getDeclaredFields().length <= 20);
             for (Method own : inside.getDeclaredMethods()) {
-                Check.holds(own.getName() + " bears no public name", !face.contains(own.getName()));
+                Check.holds(own.getName() + " bears no public name", !FACE.contains(own.getName()));
                 Check.holds(own.getName() + " takes few parameters", own.getParameterCount() <= 7);
             }
         }
