@@ -16,6 +16,12 @@ public final class SoundArchive {
     public static final int FULL_TRACK = 0, HALF_TRACK = 1, QUARTER_TRACK = 2, PAIRED_TRACK = 3;
     public static final int LISTEN = 0, COPY = 1, BROADCAST = 2;
 
+    private static final int MOST_CARRIERS = 8;
+    private static final int MOST_MACHINES = 4;
+    private static final int MOST_RECORDINGS = 16;
+    private static final int MOST_PASSES = 24;
+    private static final int MOST_PERMISSIONS = 24;
+    private static final int MOST_REQUESTS = 16;
     private static final int PERSONS = 8;
     private static final int PARTS_PER_RECORDING = 4;
     private static final int TRACKS_AT_MOST = 4;
@@ -1158,20 +1164,20 @@ public final class SoundArchive {
 
     /** All but the text, the history and the slots. */
     private static final class State {
-        private final Table carriers = new Table(8, CARRIER_PROPERTIES);
-        private final Table machines = new Table(4, MACHINE_PROPERTIES);
-        private final Table recordings = new Table(16, RECORDING_PROPERTIES);
-        private final Table parts = new Table(16 * PARTS_PER_RECORDING, PART_COLUMNS);
-        private final Table passes = new Table(24, PASS_COLUMNS);
-        private final Table permissions = new Table(24, PERMISSION_PROPERTIES);
-        private final Table requests = new Table(16, REQUEST_PROPERTIES);
+        private final Table carriers = new Table(MOST_CARRIERS, CARRIER_PROPERTIES);
+        private final Table machines = new Table(MOST_MACHINES, MACHINE_PROPERTIES);
+        private final Table recordings = new Table(MOST_RECORDINGS, RECORDING_PROPERTIES);
+        private final Table parts = new Table(MOST_RECORDINGS * PARTS_PER_RECORDING, PART_COLUMNS);
+        private final Table passes = new Table(MOST_PASSES, PASS_COLUMNS);
+        private final Table permissions = new Table(MOST_PERMISSIONS, PERMISSION_PROPERTIES);
+        private final Table requests = new Table(MOST_REQUESTS, REQUEST_PROPERTIES);
         private final Table persons = new Table(PERSONS, PERSON_COLUMNS);
         private int today;
         private int reason;
 
         private State() {
             // Parts and persons have fixed rows; how many parts count is told by the recording.
-            parts.rows = 16 * PARTS_PER_RECORDING;
+            parts.rows = MOST_RECORDINGS * PARTS_PER_RECORDING;
             persons.rows = PERSONS;
         }
 
