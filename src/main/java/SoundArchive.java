@@ -1210,7 +1210,7 @@ public final class SoundArchive {
 
         private History() {
             states = new State[LIMIT];
-            for (int i = 0; i < LIMIT; i++) {
+            for (int i = 0; i < states.length; i++) {
                 states[i] = new State();
             }
         }

@@ -123,6 +123,44 @@ abstract class Edges {
         return x;
     }
 
+    /**
+     * Things that belong together have different numbers: recording 3 lies on carrier 2, its best
+     * pass 2 was made on machine 1 on day 5, and request 1 of person 2 is for it. Next to them stand others.
+     */
+    static SoundArchive unlike() {
+        SoundArchive x = new SoundArchive();
+        x.addCarrier(CASSETTE, 48, PAIRED_TRACK, 60, 9);
+        x.addCarrier(DISC, 45, HALF_TRACK, 100, 5);
+        x.addCarrier(REEL, 190, QUARTER_TRACK, 600, 20);
+        x.addMachine(CASSETTE, 1, PAIRED_TRACK, 70);
+        x.addMachine(REEL, 7, QUARTER_TRACK, 90);
+        x.addRecording(0, 1, 0, 10);
+        x.addRecording(1, 1, 5, 50);
+        x.addRecording(1, 2, 0, 100);
+        x.addRecording(2, 8, 100, 300);
+        x.addRecording(2, 1, 7, 20);
+        x.addPart(2, 0, 100, 3, 50);
+        x.addPart(3, 0, 50, 5, 30);
+        x.addPart(3, 40, 200, 6, 40);
+        x.addPart(4, 0, 13, 4, 99);
+        x.passDays(4);
+        x.transfer(0, 0, 48, 1);
+        x.passDays(1);
+        x.transfer(2, 1, 95, 0);
+        x.transfer(2, 1, 190, 1);
+        x.permit(5, 2, COPY, 20);
+        x.permit(6, 2, COPY, 10);
+        x.permit(6, 1, LISTEN, 60);
+        x.permit(4, 3, BROADCAST, 80);
+        x.request(7, 4, 0, 5, LISTEN, 20);
+        x.request(2, 3, 45, 60, COPY, 80);
+        x.request(1, 3, 60, 70, COPY, 30);
+        x.request(1, 3, 60, 70, LISTEN, 30);
+        x.request(3, 4, 2, 9, BROADCAST, 45);
+        x.request(0, 0, 0, 1, LISTEN, 1);
+        return x;
+    }
+
     // ---- looking at all that can be seen
 
     private static List<Integer> things(SoundArchive x, boolean withReason) {
@@ -270,6 +308,12 @@ abstract class Edges {
         }
         due(name + ": there is no older state", done, times(kept + 1, SoundArchive::undo), NOT_POSSIBLE);
         Check.holds(name + ": the text and the slots stay", besides(build).equals(besides(done)));
+    }
+
+    /** The call is recorded and leaves the reason, as it is neither a pass nor an answer. */
+    static void recordedWithTheReason(String name, Call call, int due) {
+        recorded(name, Edges::rich, call, due);
+        due(name + ": the reason stays", after(Edges::rich, call), x -> x.total(REASON), 9);
     }
 
     /** The values of an argument: both ends are right, what is beyond them is an error. */

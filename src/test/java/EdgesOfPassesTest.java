@@ -91,6 +91,10 @@ public final class EdgesOfPassesTest extends Edges {
             due(name + ", the rest", after(reel(60, 99, 90), pass), x -> x.carrier(0, 4), 99 - cost[1]);
             refused(name + ", none is left", after(reel(60, cost[1], 90), pass), pass, 2);
         }
+        Build fast = after(reel(60, 9, 90), times(2, x -> x.transfer(0, 0, 380, 0)));
+        properties("21: two plays a pass, but one pass", fast, (x, v) -> x.carrier(0, v), REEL, 190, HALF_TRACK, 60, 5, 2, 2);
+        due("37: a fast pass wears like any other", fast, x -> x.heard(0, 0, 190, 0, 0), 88);
+        due("22: a fast pass is one pass", fast, x -> x.machine(0, 5), 2);
         refused("6: one play for a fast pass", reel(60, 1, 90), x -> x.transfer(0, 0, 380, 0), 2);
         due("6: one play after two fast passes", after(reel(60, 5, 90), times(2, x -> x.transfer(0, 0, 380, 0))),
                 x -> x.carrier(0, 4), 1);
@@ -132,6 +136,11 @@ public final class EdgesOfPassesTest extends Edges {
                 x -> x.transfer(0, 0, 48, 1), 4);
         due("6: a capture of 1", reel(9, 9, 1), x -> x.transfer(0, 0, 190, 0), 0);
         refused("6: a half, rounded down", reel(9, 9, 1), x -> x.transfer(0, 0, 95, 0), 4);
+        due("25: a capture of 1 is captured", after(reel(9, 9, 1), x -> x.transfer(0, 0, 190, 1)), x -> x.pass(0, 5), 2);
+        due("25: one of four strips", after(pair(REEL, 95, FULL_TRACK, 9, QUARTER_TRACK, 4), x -> x.transfer(0, 0, 95, 1)),
+                x -> x.pass(0, 5), 1);
+        due("25: one of four strips, backwards", after(pair(REEL, 95, FULL_TRACK, 9, QUARTER_TRACK, 4),
+                x -> x.transfer(0, 0, 95, 1)), x -> x.pass(0, 6), 1);
         due("6: two halves", reel(9, 9, 2), x -> x.transfer(0, 0, 95, 0), 0);
         due("6: 3 less 2", after(reel(9, 9, 3), times(2, x -> x.transfer(0, 0, 190, 0))), x -> x.transfer(0, 0, 190, 1), 2);
         refused("6: 3 less 3", after(reel(9, 9, 3), times(3, x -> x.transfer(0, 0, 190, 0))), x -> x.transfer(0, 0, 190, 1), 4);
@@ -209,6 +218,9 @@ public final class EdgesOfPassesTest extends Edges {
         captured("one of four strips, not two", pair(REEL, 95, FULL_TRACK, 9, QUARTER_TRACK, 100), 95, 0, 0, 25);
         captured("two of four strips", pair(REEL, 95, FULL_TRACK, 9, HALF_TRACK, 100), 95, 1, 0, 50);
         captured("the greatest of all", pair(REEL, 95, FULL_TRACK, 9, FULL_TRACK, 100), 95, 0, 0, 100);
+        captured("all four strips from below", pair(REEL, 95, FULL_TRACK, 9, FULL_TRACK, 100), 95, 1, 0, 100);
+        captured("one of four strips from below", pair(REEL, 95, FULL_TRACK, 9, QUARTER_TRACK, 100), 95, 1, 0, 25);
+        captured("one of two strips, backwards", pair(REEL, 95, HALF_TRACK, 9, QUARTER_TRACK, 100), 95, 1, 0, 50);
         captured("the smallest of all", pair(REEL, 95, FULL_TRACK, 9, QUARTER_TRACK, 4), 95, 0, 0, 1);
         captured("side 0 from above", pair(REEL, 95, HALF_TRACK, 9, HALF_TRACK, 80), 95, 0, 0, 80);
         captured("side 1 from below", pair(REEL, 95, HALF_TRACK, 9, HALF_TRACK, 80), 95, 1, 1, 80);
@@ -266,6 +278,43 @@ public final class EdgesOfPassesTest extends Edges {
         numbers("26: pass of 24", 24, passes(24, 9, 99), (x, v) -> x.captured(v, 1));
         keeps("26: captured backwards", Edges::rich, x -> x.captured(0, 1), 45);
         keeps("26: not captured", Edges::rich, x -> x.captured(1, 1), 0);
+    }
+
+    private static void passesOfUnlikeNumbers() {
+        int[][] passes = {{0, 0, 48, 1, 4, 12, 0}, {2, 1, 95, 0, 5, 5, 0}, {2, 1, 190, 1, 5, 10, 0}};
+        int[][] captures = {{0, 0, 70, 70}, {45, 0, 45, 0}, {0, 89, 0, 89}};
+        int[][] qualities = {{0, 0, 0, 0, 0}, {0, 0, 0, 0, 45}, {0, 0, 0, 89, 0}};
+        for (int pass = 0; pass <= 2; pass++) {
+            int chosen = pass;
+            properties("25: pass " + pass, Edges::unlike, (x, v) -> x.pass(chosen, v), passes[pass]);
+            for (int track = 0; track <= 3; track++) {
+                int its = track;
+                due("26: track " + track + " in pass " + pass, Edges::unlike, x -> x.captured(chosen, its), captures[pass][track]);
+            }
+            for (int recording = 0; recording <= 4; recording++) {
+                int its = recording;
+                due("27: recording " + recording + " in pass " + pass, Edges::unlike, x -> x.quality(chosen, its),
+                        qualities[pass][recording]);
+            }
+        }
+        int[] best = {NONE, NONE, NONE, 2, 1};
+        for (int recording = 0; recording <= 4; recording++) {
+            int its = recording;
+            due("28: best for recording " + recording, Edges::unlike, x -> x.bestPass(its), best[recording]);
+        }
+        due("37: carrier 2 on machine 1", Edges::unlike, x -> x.heard(2, 1, 380, 1, 3), 43);
+        due("38: carrier 2", Edges::unlike, x -> x.duration(2, 380), 300);
+        properties("39: recording 0", Edges::unlike, (x, v) -> x.planned(0, v), 0, 48, 0, 69, 60);
+        properties("39: recording 2", Edges::unlike, (x, v) -> x.planned(2, v), NONE, NONE, NONE, NONE, NONE);
+        properties("39: recording 3", Edges::unlike, (x, v) -> x.planned(3, v), 1, 190, 1, 88, 600);
+        properties("39: recording 4", Edges::unlike, (x, v) -> x.planned(4, v), 1, 190, 0, 88, 600);
+        due("40: carrier 2", Edges::unlike, x -> x.fewestPasses(2, 88), 2);
+        due("40: carrier 0", Edges::unlike, x -> x.fewestPasses(0, 69), 1);
+        due("40: carrier 1", Edges::unlike, x -> x.fewestPasses(1, 1), NONE);
+        numbers("26: track of carrier 2", 4, Edges::unlike, (x, v) -> x.captured(1, v));
+        Build disc = after(Edges::unlike, x -> x.addMachine(DISC, 7, PAIRED_TRACK, 80), x -> x.transfer(1, 2, 78, 1));
+        numbers("26: track of carrier 1", 2, disc, (x, v) -> x.captured(3, v));
+        properties("25: a pass of carrier 1 on machine 2", disc, (x, v) -> x.pass(3, v), 1, 2, 78, 1, 5, 2, 0);
     }
 
     private static void qualities() {
@@ -384,6 +433,10 @@ public final class EdgesOfPassesTest extends Edges {
         plan("the shorter one beats the smaller number and the lower speed",
                 machine(machine(reel, REEL, 1, HALF_TRACK, 100), REEL, 4, HALF_TRACK, 100), 1, 380, 0, 50, 50);
         plan("the shorter one of one machine", machine(reel, REEL, 5, HALF_TRACK, 100), 0, 380, 0, 50, 50);
+        plan("the shorter one with the smaller number",
+                machine(machine(reel, REEL, 4, HALF_TRACK, 100), REEL, 1, HALF_TRACK, 100), 0, 380, 0, 50, 50);
+        plan("the shorter one with the lower speed", machine(carrier(DISC, 33, HALF_TRACK, 1, 9), DISC, 5, HALF_TRACK, 1),
+                0, 33, 0, 1, 1);
         plan("the smaller number", machine(machine(reel, REEL, 2, HALF_TRACK, 70), REEL, 2, HALF_TRACK, 70), 0, 190, 0, 70, 100);
         Build disc = carrier(DISC, 45, HALF_TRACK, 1, 9);
         plan("the smaller number beats the lower speed",
@@ -441,6 +494,13 @@ public final class EdgesOfPassesTest extends Edges {
         range("40: quality", 1, 100, 2, BAD_VALUE, reel(9, 9, 100), (x, v) -> x.fewestPasses(0, v));
         Build none = carrierWithout();
         range("40: quality without recordings", 1, 100, 0, BAD_VALUE, none, (x, v) -> x.fewestPasses(0, v));
+        Build two = after(reel(9, 9, 60), x -> x.addCarrier(REEL, 95, HALF_TRACK, 9, 9), x -> x.addRecording(1, 2, 0, 1),
+                x -> x.addCarrier(REEL, 95, HALF_TRACK, 9, 9));
+        due("40: after another carrier", after(two, x -> x.fewestPasses(0, 60)), x -> x.fewestPasses(1, 60), 1);
+        due("40: after a carrier that needs less", after(two, x -> x.fewestPasses(1, 60)), x -> x.fewestPasses(0, 60), 2);
+        due("40: no recordings, after a carrier with some", after(two, x -> x.fewestPasses(0, 60)), x -> x.fewestPasses(2, 60), 0);
+        due("40: after a lower quality", after(two, x -> x.fewestPasses(0, 60)), x -> x.fewestPasses(0, 61), NONE);
+        due("40: after a higher quality", after(two, x -> x.fewestPasses(0, 61)), x -> x.fewestPasses(0, 60), 2);
         keeps("40: as good as asked", reel(9, 9, 60), x -> x.fewestPasses(0, 60), 2);
         keeps("40: worse by 1", reel(9, 9, 60), x -> x.fewestPasses(0, 61), NONE);
         keeps("40: a quality of 1", reel(9, 9, 1), x -> x.fewestPasses(0, 1), 2);
@@ -463,6 +523,10 @@ public final class EdgesOfPassesTest extends Edges {
         Build two = after(one, x -> x.addRecording(0, 2, 0, 1));
         due("40: one on each side", two, x -> x.fewestPasses(0, 80), 2);
         due("40: one pass for both, one of them backwards", machine(two, REEL, 7, QUARTER_TRACK, 100), x -> x.fewestPasses(0, 50), 1);
+        Build quarterFirst = after(empty(), x -> x.addCarrier(REEL, 190, HALF_TRACK, 9, 9), x -> x.addMachine(REEL, 7, QUARTER_TRACK, 100),
+                x -> x.addMachine(REEL, 7, HALF_TRACK, 80), x -> x.addRecording(0, 1, 0, 1), x -> x.addRecording(0, 2, 0, 1));
+        due("40: one pass for both, before worse ways", quarterFirst, x -> x.fewestPasses(0, 50), 1);
+        due("40: above the quality of that one", quarterFirst, x -> x.fewestPasses(0, 51), 2);
         due("40: above the quality of that one", machine(two, REEL, 7, QUARTER_TRACK, 100), x -> x.fewestPasses(0, 51), 2);
         due("40: above all", machine(two, REEL, 7, QUARTER_TRACK, 100), x -> x.fewestPasses(0, 81), NONE);
         due("40: two recordings of another carrier",
@@ -521,6 +585,7 @@ public final class EdgesOfPassesTest extends Edges {
         rounding();
         wear();
         lookingAtPasses();
+        passesOfUnlikeNumbers();
         qualities();
         bestPasses();
         hearing();

@@ -50,7 +50,7 @@ public final class EdgesOfRightsTest extends Edges {
         }
         recorded("7: the first permission", empty(), one, 0);
         recorded("7: the last permission", permissions(23), one, 23);
-        recorded("7: a permission", Edges::rich, one, 3);
+        recordedWithTheReason("7: a permission", one, 3);
         keeps("7: a 25th permission", permissions(24), one, FULL);
         keeps("7: revoked ones count", after(permissions(24), x -> x.revoke(0), x -> x.revoke(23)), one, FULL);
         keeps("7: past ones count", after(permissions(24), toDay(10)), one, FULL);
@@ -69,7 +69,7 @@ public final class EdgesOfRightsTest extends Edges {
         keeps("8: the 25th", permissions(24), x -> x.revoke(24), BAD_INDEX);
         recorded("8: the 24th", permissions(24), x -> x.revoke(23), 23);
         recorded("8: the only one", permissions(1), x -> x.revoke(0), 0);
-        recorded("8: one of two", Edges::rich, x -> x.revoke(0), 1);
+        recordedWithTheReason("8: one of two", x -> x.revoke(0), 1);
         recorded("8: one that is past", after(permissions(2), toDay(50)), x -> x.revoke(1), 1);
         keeps("8: one that is revoked", Edges::rich, x -> x.revoke(2), NOT_POSSIBLE);
         keeps("8: one that was just revoked", after(permissions(3), x -> x.revoke(1)), x -> x.revoke(1), NOT_POSSIBLE);
@@ -114,7 +114,7 @@ public final class EdgesOfRightsTest extends Edges {
         }
         recorded("9: the first request", recording(), ask(COPY, 5), 0);
         recorded("9: the last request", requests(15), ask(COPY, 5), 15);
-        recorded("9: a request", Edges::rich, ask(COPY, 5), 5);
+        recordedWithTheReason("9: a request", ask(COPY, 5), 5);
         keeps("9: a 17th request", requests(16), ask(COPY, 5), FULL);
         keeps("9: withdrawn ones count", after(requests(16), x -> x.withdraw(0)), ask(COPY, 5), FULL);
         keeps("9: answered ones count", after(requests(16), x -> x.answer(15)), ask(COPY, 5), FULL);
@@ -151,7 +151,7 @@ public final class EdgesOfRightsTest extends Edges {
         range("10: day, on the last one", 9999, 9999, 9999, BAD_VALUE, after(recording(), toDay(9999), ask(LISTEN, 1)),
                 (x, v) -> x.setDue(0, v));
         recorded("10: the day that it was", requests(1), x -> x.setDue(0, 30), 30);
-        recorded("10: a later day", Edges::rich, x -> x.setDue(1, 31), 30);
+        recordedWithTheReason("10: a later day", x -> x.setDue(1, 31), 30);
         due("10: the day before", after(requests(1), x -> x.setDue(0, 9999)), x -> x.setDue(0, 0), 9999);
         for (int state = 1; state <= 3; state++) {
             keeps("10: a request in state " + state, inState(state), x -> x.setDue(0, 50), NOT_POSSIBLE);
@@ -173,7 +173,7 @@ public final class EdgesOfRightsTest extends Edges {
         numbers("11: no request at all", 0, recording(), (x, v) -> x.withdraw(v));
         recorded("11: the only one", requests(1), x -> x.withdraw(0), 0);
         recorded("11: the last of 16", requests(16), x -> x.withdraw(15), 15);
-        recorded("11: one of two that are open", Edges::rich, x -> x.withdraw(3), 1);
+        recordedWithTheReason("11: one of two that are open", x -> x.withdraw(3), 1);
         due("11: again after undo", after(requests(2), x -> x.withdraw(0), x -> x.undo()), x -> x.withdraw(0), 1);
         due("11: due today", after(requests(1), toDay(30)), x -> x.withdraw(0), 0);
         keeps("11: due yesterday", after(requests(1), toDay(31)), x -> x.withdraw(0), NOT_POSSIBLE);
@@ -280,12 +280,49 @@ public final class EdgesOfRightsTest extends Edges {
         keeps("34: of both", Edges::rich, x -> x.paid(0), 50);
     }
 
+    private static void answersOfUnlikeNumbers() {
+        recorded("12: request 1 for recording 3", Edges::unlike, x -> x.answer(1), 2);
+        Build done = after(Edges::unlike, x -> x.answer(1));
+        properties("30: request 1", done, (x, v) -> x.requested(1, v), 1, 2, 3, 45, 60, COPY, 80, 35, 2, 20);
+        int[] income = {0, 0, 0, 0, 0, 5, 15, 0};
+        for (int person = 0; person <= 7; person++) {
+            int chosen = person;
+            due("33: person " + person, done, x -> x.income(chosen), income[person]);
+            due("34: person " + person, done, x -> x.paid(chosen), person == 2 ? 20 : 0);
+            due("33: person " + person + ", undone", after(done, x -> x.undo()), x -> x.income(chosen), 0);
+            due("34: person " + person + ", undone", after(done, x -> x.undo()), x -> x.paid(chosen), 0);
+        }
+        refused("12: a permission for a lower use", Edges::unlike, x -> x.answer(2), 9);
+        recorded("12: the permission is good for that use", Edges::unlike, x -> x.answer(3), 2);
+        refused("12: no permission at all", Edges::unlike, x -> x.answer(0), 9);
+        recorded("12: for a broadcast, just good enough", Edges::unlike, x -> x.answer(4), 1);
+        due("12: three times the seconds", after(Edges::unlike, x -> x.answer(4)), x -> x.requested(4, 9), 21);
+        refused("12: no pass of this recording", Edges::unlike, x -> x.answer(5), 7);
+        due("31: for copying", Edges::unlike, x -> x.lacking(1, 3, 60, 70, COPY), 2);
+        due("31: for listening", Edges::unlike, x -> x.lacking(1, 3, 60, 70, LISTEN), 0);
+        due("31: of both parts", Edges::unlike, x -> x.lacking(1, 3, 45, 60, COPY), 3);
+        due("32: of both parts", Edges::unlike, x -> x.fee(1, 3, 45, 60, BROADCAST), 60);
+    }
+
+    /** Recording 1 has a part over the same seconds, which is none of recording 0's. */
+    private static void partsOfTheNextRecording() {
+        Build build = after(covered(), x -> x.addRecording(0, 2, 0, 600), x -> x.addPart(1, 0, 600, 5, 99), ask(COPY, 1));
+        for (int count = 0; count <= 4; count++) {
+            Build own = after(build, times(count, x -> x.addPart(0, 0, 9, 6, 99)), x -> x.permit(6, 0, COPY, 9));
+            recorded("12: with " + count + " own parts", own, x -> x.answer(0), 0);
+            due("33: the holder of another recording, " + count, after(own, x -> x.answer(0)), x -> x.income(5), 0);
+            due("34: for " + count + " own parts", after(own, x -> x.answer(0)), x -> x.paid(0), 9 * count);
+            due("32: for " + count + " own parts", own, x -> x.fee(0, 0, 0, 10, COPY), 9 * count);
+            due("31: " + count + " own parts", own, x -> x.lacking(1, 0, 0, 10, COPY), (1 << count) - 1);
+        }
+    }
+
     // ---- promise 13
 
     private static void daysThatPass() {
         range("13: days", 1, 99, 0, BAD_VALUE, recording(), (x, v) -> x.passDays(v));
         outside("13: days", BAD_VALUE, Edges::rich, (x, v) -> x.passDays(v), 0, 100, -1, -99, LOW, HIGH);
-        recorded("13: a day", Edges::rich, x -> x.passDays(1), 0);
+        recordedWithTheReason("13: a day", x -> x.passDays(1), 0);
         recorded("13: the first day", empty(), x -> x.passDays(1), 0);
         due("13: today after a day", after(empty(), x -> x.passDays(1)), x -> x.total(0), 1);
         due("13: today after 99 days", after(empty(), x -> x.passDays(99)), x -> x.total(0), 99);
@@ -298,7 +335,6 @@ public final class EdgesOfRightsTest extends Edges {
         keeps("13: 100 days before the last day", after(empty(), toDay(9999)), x -> x.passDays(100), BAD_VALUE);
         keeps("13: far too many on the last day", after(empty(), toDay(9999)), x -> x.passDays(HIGH), BAD_VALUE);
         due("13: the last day", after(empty(), toDay(9999)), x -> x.total(0), 9999);
-        due("13: the reason stays", after(Edges::rich, x -> x.passDays(1)), x -> x.total(11), 9);
         Build used = after(covered(), x -> x.addMachine(REEL, 7, HALF_TRACK, 9), x -> x.transfer(0, 1, 380, 1), x -> x.passDays(1));
         due("13: all time of the first machine is back", used, x -> x.machine(0, 4), 28800);
         due("13: all time of the last machine is back", used, x -> x.machine(1, 4), 28800);
@@ -462,6 +498,11 @@ public final class EdgesOfRightsTest extends Edges {
 
     private static void totals() {
         properties("36: total", Edges::rich, (x, v) -> x.total(v), 1, 2, 2, 3, 2, 3, 5, 2, 1, 1, 1, 9, 5, 2);
+        properties("36: different numbers", after(Edges::unlike, x -> x.answer(1), x -> x.withdraw(0), x -> x.withdraw(4),
+                x -> x.setDue(2, 5), x -> x.passDays(1), x -> x.undo(), x -> x.append('x')), (x, v) -> x.total(v),
+                5, 3, 2, 5, 3, 4, 6, 3, 1, 0, 2, 0, 4, 1);
+        properties("36: all expired but two", after(Edges::unlike, x -> x.setDue(2, 99), x -> x.answer(1), toDay(36), x -> x.answer(2)),
+                (x, v) -> x.total(v), 36, 3, 2, 5, 3, 4, 6, 1, 1, 4, 0, 9, 5, 0);
         properties("36: of a new object", empty(), (x, v) -> x.total(v), 0, 0, 0, 0, 0, 0, 0, 0, 0, 0, 0, 0, 0, 0);
         properties("36: with all permissions", after(permissions(24), x -> x.revoke(0)), (x, v) -> x.total(v),
                 0, 0, 0, 0, 0, 24, 0, 0, 0, 0, 0, 0, 5, 0);
@@ -486,6 +527,8 @@ public final class EdgesOfRightsTest extends Edges {
         whatIsRefused();
         whichRefusalIsFirst();
         answers();
+        answersOfUnlikeNumbers();
+        partsOfTheNextRecording();
         daysThatPass();
         daysOnWhichRequestsExpire();
         secondsThatAreShared();

@@ -49,6 +49,15 @@ public final class EdgesOfTextsTest extends Edges {
         due("15: it is empty then", after(full, x -> x.clearText()), x -> x.total(13), 0);
         due("15: and stays so", after(full, x -> x.clearText()), x -> x.clearText(), 0);
         due("15: an empty text has no fault", after(full, x -> x.clearText()), x -> x.faultPosition(), NONE);
+        keepsTheState("14: the first byte", empty(), x -> x.append(';'));
+        keepsTheState("15: emptying an empty one", empty(), x -> x.clearText());
+        for (String start : new String[] {"d", "d1", "t", "t0m0v190"}) {
+            Build again = after(with("t0m0v190s0;d1;"), x -> x.clearText(), text(start));
+            due("15: no byte of the old text is read, " + start, again, x -> x.faultPosition(), start.length());
+            due("15: nor carried out, " + start, again, x -> x.run(), NOT_POSSIBLE);
+        }
+        Build shorter = after(archive(), text("d1;d2;"), x -> x.clearText(), text("d4;"), x -> x.run());
+        due("15: the acts of the new text alone", shorter, x -> x.total(0), 4);
         due("15: nothing of it comes back", after(with("d1;d2;"), x -> x.clearText(), text("d3;")), x -> x.run(), 1);
     }
 
@@ -292,6 +301,9 @@ public final class EdgesOfTextsTest extends Edges {
         due("18: a text that was emptied stays so", after(empty(), text("d1;"), x -> x.passDays(1), x -> x.clearText(), x -> x.undo()),
                 x -> x.total(13), 0);
         due("18: the reason comes back", after(Edges::rich, x -> x.transfer(0, 0, 190, 0), x -> x.undo()), x -> x.total(11), 9);
+        Build old = after(Edges::rich, times(5, x -> x.passDays(1)));
+        keeps("18: nothing to undo leaves the reason", after(old, times(5, x -> x.undo())), x -> x.undo(), NOT_POSSIBLE);
+        due("18: which is there still", after(old, times(6, x -> x.undo())), x -> x.total(11), 9);
         due("18: a reason goes with what followed", after(Edges::rich, x -> x.undo()), x -> x.total(11), 0);
         for (int slot = 0; slot <= 1; slot++) {
             int chosen = slot;
@@ -306,6 +318,20 @@ public final class EdgesOfTextsTest extends Edges {
         recorded("20: the same state", after(Edges::rich, x -> x.save(0)), x -> x.restore(0), 1);
         recorded("20: the same state of a new object", after(empty(), x -> x.save(1)), x -> x.restore(1), 0);
         recorded("17: no acts", empty(), x -> x.run(), 0);
+    }
+
+    /** Each part of the state comes back though another value took its place in between. */
+    private static void whatComesBack() {
+        Build two = after(archive(), x -> x.addPart(0, 0, 9, 1, 50), x -> x.save(0), x -> x.undo(), x -> x.addPart(0, 3, 4, 5, 60));
+        properties("24: the part that was added", two, (x, v) -> x.part(0, 0, v), 3, 4, 5, 60, 1);
+        properties("20: the part that was saved", after(two, x -> x.restore(0)), (x, v) -> x.part(0, 0, v), 0, 9, 1, 50, 1);
+        properties("18: the part that was undone", after(two, x -> x.restore(0), x -> x.undo()), (x, v) -> x.part(0, 0, v),
+                3, 4, 5, 60, 1);
+        Build paid = after(Edges::unlike, x -> x.save(0), x -> x.answer(1), x -> x.save(1));
+        due("20: before the answer", after(paid, x -> x.restore(0)), x -> x.paid(2), 0);
+        due("20: before the answer", after(paid, x -> x.restore(0)), x -> x.income(6), 0);
+        due("20: after the answer", after(paid, x -> x.restore(0), x -> x.restore(1)), x -> x.paid(2), 20);
+        due("20: after the answer", after(paid, x -> x.restore(0), x -> x.restore(1)), x -> x.income(6), 15);
     }
 
     // ---- promises 19 and 20
@@ -374,6 +400,7 @@ public final class EdgesOfTextsTest extends Edges {
         daysAndUndoing();
         whatUndoLeaves();
         recordedWithoutADifference();
+        whatComesBack();
         slots();
         Check.finish();
     }

@@ -105,7 +105,7 @@ public final class EdgesOfThingsTest extends Edges {
         }
         recorded("2: the first carrier", empty(), one, 0);
         recorded("2: the last carrier", carriers(7), one, 7);
-        recorded("2: a carrier", Edges::rich, one, 2);
+        recordedWithTheReason("2: a carrier", one, 2);
         keeps("2: a ninth carrier", carriers(8), one, FULL);
         keeps("2: a wrong kind before no room", carriers(8), x -> x.addCarrier(3, 78, HALF_TRACK, 9, 9), BAD_VALUE);
         keeps("2: a wrong speed before no room", carriers(8), x -> x.addCarrier(DISC, 79, HALF_TRACK, 9, 9), BAD_VALUE);
@@ -163,7 +163,7 @@ public final class EdgesOfThingsTest extends Edges {
         }
         recorded("3: the first machine", empty(), one, 0);
         recorded("3: the last machine", machines(3), one, 3);
-        recorded("3: a machine", Edges::rich, one, 2);
+        recordedWithTheReason("3: a machine", one, 2);
         keeps("3: a fifth machine", machines(4), one, FULL);
         keeps("3: a wrong kind before no room", machines(4), x -> x.addMachine(3, 7, FULL_TRACK, 9), BAD_VALUE);
         keeps("3: no speeds before no room", machines(4), x -> x.addMachine(REEL, 0, FULL_TRACK, 9), BAD_VALUE);
@@ -234,7 +234,7 @@ public final class EdgesOfThingsTest extends Edges {
         }
         recorded("4: the first recording", disc(100), one, 0);
         recorded("4: the last recording", recordings(15), one, 15);
-        recorded("4: a recording", Edges::rich, x -> x.addRecording(0, 1, 150, 160), 3);
+        recordedWithTheReason("4: a recording", x -> x.addRecording(0, 1, 150, 160), 3);
         keeps("4: a 17th recording", recordings(16), one, FULL);
         keeps("4: no room before a second that is taken", recordings(16), x -> x.addRecording(0, 1, 0, 1), FULL);
         keeps("4: wrong tracks before no room", recordings(16), x -> x.addRecording(0, 3, 90, 100), BAD_VALUE);
@@ -293,6 +293,14 @@ public final class EdgesOfThingsTest extends Edges {
         range("5: free from", 0, 9999, 1, BAD_VALUE, parts(1), (x, v) -> x.addPart(0, 0, 9, 1, v));
     }
 
+    private static void partsThatAreFree() {
+        for (int free : new int[] {0, 6, 7}) {
+            Build late = after(parts(0), toDay(7));
+            recorded("5: free on day " + free + ", added on day 7", late, x -> x.addPart(0, 0, 9, 1, free), 0);
+            due("24: it is not protected", after(late, x -> x.addPart(0, 0, 9, 1, free)), x -> x.part(0, 0, 4), 0);
+        }
+    }
+
     private static void roomForParts() {
         Call one = x -> x.addPart(0, 99, 100, 7, 9999);
         for (int count = 0; count <= 3; count++) {
@@ -300,7 +308,7 @@ public final class EdgesOfThingsTest extends Edges {
         }
         recorded("5: the first part", parts(0), one, 0);
         recorded("5: the last part, which overlaps the others", parts(3), one, 3);
-        recorded("5: a part", Edges::rich, one, 2);
+        recordedWithTheReason("5: a part", one, 2);
         keeps("5: a fifth part", parts(4), one, FULL);
         due("5: room in another recording", parts(4), x -> x.addPart(1, 0, 10, 1, 9), 0);
         keeps("5: no recording before no room", parts(4), x -> x.addPart(2, 0, 10, 1, 9), BAD_INDEX);
@@ -353,6 +361,36 @@ public final class EdgesOfThingsTest extends Edges {
         numbers("24: no part before a wrong property", 2, Edges::rich, (x, v) -> x.part(0, v, -1));
     }
 
+    private static void thingsOfUnlikeNumbers() {
+        properties("21: carrier 0", Edges::unlike, (x, v) -> x.carrier(0, v), CASSETTE, 48, PAIRED_TRACK, 60, 8, 1, 1);
+        properties("21: carrier 1", Edges::unlike, (x, v) -> x.carrier(1, v), DISC, 45, HALF_TRACK, 100, 5, 0, 2);
+        properties("21: carrier 2", Edges::unlike, (x, v) -> x.carrier(2, v), REEL, 190, QUARTER_TRACK, 600, 18, 2, 2);
+        properties("22: machine 0", Edges::unlike, (x, v) -> x.machine(0, v), CASSETTE, 1, PAIRED_TRACK, 70, 28800, 1);
+        properties("22: machine 1", Edges::unlike, (x, v) -> x.machine(1, v), REEL, 7, QUARTER_TRACK, 90, 27000, 2);
+        properties("23: recording 3", Edges::unlike, (x, v) -> x.recording(3, v), 2, 8, 100, 300, 1, 2);
+        properties("23: recording 4", Edges::unlike, (x, v) -> x.recording(4, v), 2, 1, 7, 20, 0, 1);
+        properties("24: part 1 of recording 3", Edges::unlike, (x, v) -> x.part(3, 1, v), 40, 200, 6, 40, 1);
+        properties("24: part 0 of recording 4", Edges::unlike, (x, v) -> x.part(4, 0, v), 0, 13, 4, 99, 1);
+        properties("24: part 0 of recording 2", Edges::unlike, (x, v) -> x.part(2, 0, v), 0, 100, 3, 50, 1);
+    }
+
+    /** The parts of the last recording and of the one before it do not meet. */
+    private static void partsOfTheLastRecording() {
+        Build build = after(empty(), x -> x.addCarrier(DISC, 33, HALF_TRACK, 160, 9),
+                times(16, x -> x.addRecording(0, 1, 10 * x.total(3), 10 * x.total(3) + 10)),
+                times(4, x -> x.addPart(14, x.recording(14, 5), 10, 1, 30 + x.recording(14, 5))),
+                times(4, x -> x.addPart(15, 0, 1 + x.recording(15, 5), 7, 20 + x.recording(15, 5))),
+                times(4, x -> x.addPart(0, 0, 9, x.recording(0, 5), 9999)));
+        for (int part = 0; part <= 3; part++) {
+            int chosen = part;
+            properties("24: part " + part + " of recording 15", build, (x, v) -> x.part(15, chosen, v),
+                    0, 1 + part, 7, 20 + part, 1);
+            properties("24: part " + part + " of recording 14", build, (x, v) -> x.part(14, chosen, v),
+                    part, 10, 1, 30 + part, 1);
+            properties("24: part " + part + " of recording 0", build, (x, v) -> x.part(0, chosen, v), 0, 9, part, 9999, 1);
+        }
+    }
+
     private static void protectedParts() {
         for (int free : new int[] {0, 1, 9, 9999}) {
             Build build = after(parts(0), x -> x.addPart(0, 0, 9, 1, free));
@@ -380,9 +418,12 @@ public final class EdgesOfThingsTest extends Edges {
         roomForRecordings();
         secondsThatAreTaken();
         secondsOfParts();
+        partsThatAreFree();
         roomForParts();
         lookingAtCarriersAndMachines();
         lookingAtRecordingsAndParts();
+        thingsOfUnlikeNumbers();
+        partsOfTheLastRecording();
         protectedParts();
         Check.finish();
     }
