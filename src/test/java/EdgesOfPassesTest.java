@@ -501,6 +501,8 @@ public final class EdgesOfPassesTest extends Edges {
         due("40: no recordings, after a carrier with some", after(two, x -> x.fewestPasses(0, 60)), x -> x.fewestPasses(2, 60), 0);
         due("40: after a lower quality", after(two, x -> x.fewestPasses(0, 60)), x -> x.fewestPasses(0, 61), NONE);
         due("40: after a higher quality", after(two, x -> x.fewestPasses(0, 61)), x -> x.fewestPasses(0, 60), 2);
+        outside("40: a wrong quality before no way at all", BAD_VALUE, carrier(REEL, 95, HALF_TRACK, 9, 9),
+                (x, v) -> x.fewestPasses(0, v), 0, 101, LOW, HIGH);
         keeps("40: as good as asked", reel(9, 9, 60), x -> x.fewestPasses(0, 60), 2);
         keeps("40: worse by 1", reel(9, 9, 60), x -> x.fewestPasses(0, 61), NONE);
         keeps("40: a quality of 1", reel(9, 9, 1), x -> x.fewestPasses(0, 1), 2);
